@@ -93,9 +93,27 @@ public final class RandomRunsTest {
         }
     }
 
+    /** Short programs that hand promises about: without them rings would hardly come up. */
+    private void handAbout() {
+        int program = any(model.size);
+        int[][] bodies = {
+            {4, any(4)}, {7, any(4), 3, any(4)}, {4, any(4), 7, any(4)}, {7, any(4), 7, any(4)},
+            {7, any(4), 3, any(4), 7, any(4), 3, any(4)}
+        };
+        due("clear(" + program + ")", vats.clear(program), model.clear(program));
+        int[] body = bodies[any(bodies.length)];
+        for (int i = 0; i < body.length; i += 2) {
+            boolean want = model.code(program, body[i], body[i + 1]);
+            due("code(" + program + ", " + body[i] + ", " + body[i + 1] + ")",
+                vats.code(program, body[i], body[i + 1]), want);
+        }
+    }
+
     private void step(int calmness) {
         int choice = any(calmness);
-        if (choice == 0) {
+        if (run % 2 == 0 && any(4) == 0) {
+            handAbout();
+        } else if (choice == 0) {
             changeProgram();
         } else if (choice == 1) {
             sweepOne();
@@ -148,14 +166,14 @@ public final class RandomRunsTest {
     }
 
     private void play() {
-        int calmness = 12 + any(60);
-        for (int i = 0; i < 40; i++) {
+        int calmness = 12 + any(150);
+        for (int i = 12 + any(28); i > 0; i--) {
             addCode();
         }
         for (int i = 0; i < 10; i++) {
             giveRoot();
         }
-        for (int i = 0; i < 400 && !Check.anyWrong(); i++) {
+        for (int i = 0; i < 350 && !Check.anyWrong(); i++) {
             step(calmness);
             if (i % 4 == 0) {
                 compare();

@@ -254,7 +254,6 @@ final class VatModel {
     }
 
     private void settle(int w) {
-        int rounds = 0;
         while (!lost.isEmpty()) {
             Call call = lost.remove();
             int before = lost.size();
@@ -262,7 +261,6 @@ final class VatModel {
                 resolve(w, call.answer, 0);
             }
             if (lost.size() > before) {
-                rounds++;
                 meet(before > 0 ? "lost behind others" : "lost by a loss");
             }
         }
