@@ -692,7 +692,7 @@ public final class PromisesTest {
     private static void sweptRoots() {
         part = "promise 8, inbox";
         PromiseVats net = new PromiseVats(2);
-        program(net, 0, NEW, 4, PUT, 0, SEND, 0, NIL, 0, PUT, 0);
+        program(net, 0, NEW, 4, PUT, 0, NIL, 0, SEND, 0, NIL, 0, PUT, 0);
         run(net, 0, 0);
         due("the answer is freed", net.sweep(0), 1);
         due("freed", net.home(101), -1);
@@ -763,6 +763,46 @@ public final class PromisesTest {
         due("x", net.exported(3, 1), 0);
         due("now it is freed", net.sweep(0), 1);
         due("freed", net.home(3), -1);
+    }
+
+    private static void sweptSlots() {
+        part = "promise 8, slots";
+        PromiseVats net = new PromiseVats(3);
+        program(net, 0, NEW, 4, PUT, 0, NEW, 4, PUT, 1, NEW, 4, PUT, 2, NEW, 4, PUT, 3);
+        run(net, 0, 0);
+        due("each slot is looked at", net.sweep(0), 0);
+        for (int s = 0; s < 4; s++) {
+            due("give", net.give(0, s, 0), true);
+            due("each has the one before it", net.sweep(0), s == 3 ? 4 : 0);
+        }
+        due("give", net.give(0, 0, 1), true);
+        due("give", net.give(0, 1, 2), true);
+        due("give", net.give(1, 0, 2), true);
+        due("give", net.give(0, 1, 0), true);
+        due("sweep", net.sweep(0), 0);
+        due("slots of another vat's object hold nothing here", net.flying(0, 2), 1);
+        due("the object itself is held", net.imported(0, 2), 1);
+        due("that vat's import is its own", net.imported(1, 3), 1);
+    }
+
+    private static void objectSweptByGift() {
+        part = "promise 8, a gift of an object that waits";
+        PromiseVats net = new PromiseVats(3);
+        due("give", net.give(2, 0, 0), true);
+        due("give", net.give(0, 1, 1), true);
+        program(net, 2, NEW, 5, SEND, 0);
+        program(net, 0, SEND, 1);
+        run(net, 2, 0);
+        due("CALL", net.deliver(2, 0), 1);
+        due("turn", net.turn(0), 1);
+        due("sweep", net.sweep(0), 0);
+        due("GIFT", net.deliver(0, 2), 4);
+        due("RELEASE", net.deliver(0, 2), 3);
+        due("x", net.exported(4, 0) + net.exported(4, 1), 0);
+        due("the gift holds it", net.sweep(2), 0);
+        due("CALL", net.deliver(0, 1), 1);
+        due("REDEEM", net.deliver(1, 2), 5);
+        due("x", net.exported(4, 1), 1);
     }
 
     private static void sweptByGift() {
@@ -862,7 +902,9 @@ public final class PromisesTest {
         due("nothing", net.sweep(0), 0);
         sweptRoots();
         sweptChains();
+        sweptSlots();
         sweptByGift();
+        objectSweptByGift();
         releasesInOrder();
         belowZero();
     }
