@@ -1,60 +1,7 @@
 /** The document's promises one after the other: ordinary inputs, edges and wrong inputs. */
-public final class PromisesTest {
-    private static final int SET = 0;
-    private static final int ADD = 1;
-    private static final int KEEP = 2;
-    private static final int PUT = 3;
-    private static final int GET = 4;
-    private static final int SELF = 5;
-    private static final int NEW = 6;
-    private static final int SEND = 7;
-    private static final int SKIP = 8;
-    private static final int OUT = 9;
-    private static final int NIL = 10;
-
-    private static final int MIN = Integer.MIN_VALUE;
-    private static final int MAX = Integer.MAX_VALUE;
-
-    private static String part = "";
-
-    private static void due(String what, long got, long want) {
-        Check.due(part + ": " + what, got, want);
-    }
-
-    private static void due(String what, boolean got, boolean want) {
-        Check.due(part + ": " + what, got, want);
-    }
-
-    /** Makes a program anew from pairs of an instruction and its x. */
-    private static void program(PromiseVats net, int program, int... pairs) {
-        due("clear", net.clear(program), true);
-        for (int i = 0; i + 1 < pairs.length; i += 2) {
-            due("code " + pairs[i] + " " + pairs[i + 1],
-                net.code(program, pairs[i], pairs[i + 1]), true);
-        }
-    }
-
-    /** Pokes a root whose inbox is empty and lets it run. */
-    private static void run(PromiseVats net, int v, int value) {
-        due("inbox before", net.inbox(v), 0);
-        due("poke", net.poke(v, value), true);
-        due("turn", net.turn(v), v + 1);
-    }
-
-    private static void deliverAll(PromiseVats net, int a, int b, int kind) {
-        for (int i = net.flying(a, b); i > 0; i--) {
-            due("kind of message", net.deliver(a, b), kind);
-        }
-    }
-
-    private static void counts(PromiseVats net, int v, int... wants) {
-        for (int kind = 0; kind < wants.length; kind++) {
-            due("count(" + v + ", " + kind + ")", net.count(v, kind), wants[kind]);
-        }
-    }
-
+public final class PromisesTest extends Sentences {
     private static void newNet(int asked, int size) {
-        PromiseVats net = new PromiseVats(asked);
+        Net net = new Net(asked);
         for (int v = 0; v < 5; v++) {
             boolean there = v < size;
             due("home of root", net.home(v + 1), there ? v : -1);
@@ -63,7 +10,7 @@ public final class PromisesTest {
                 due("slot of root", net.slot(v + 1, s), 0);
                 due("in flight", net.flying(v, s), 0);
             }
-            counts(net, v, there ? 1 : 0, 0, 0, 0, 0, 0, 0, 0);
+            net.counts(v, there ? 1 : 0, 0, 0, 0, 0, 0, 0, 0);
             due("inbox", net.inbox(v), 0);
             due("sweep", net.sweep(v), there ? 0 : -1);
             due("poke", net.poke(v, 3), there);
@@ -71,7 +18,7 @@ public final class PromisesTest {
         }
         for (int v = 0; v < size; v++) {
             due("outputs of empty programs", net.count(v, 7), 0);
-            program(net, v, SET, 10 + v, OUT, 0);
+            net.program(v, SET, 10 + v, OUT, 0);
             due("poke", net.poke(v, 3), true);
             due("turn", net.turn(v), v + 1);
             due("output of program " + v, net.output(v, 0), 10 + v);
@@ -80,25 +27,25 @@ public final class PromisesTest {
     }
 
     private static void promise1() {
-        part = "promise 1";
+        sentence("promise 1");
         int[] asked = {MIN, -1, 0, 1, 2, 3, 4, 5, MAX};
         int[] sizes = {2, 2, 2, 2, 2, 3, 4, 4, 4};
         for (int i = 0; i < asked.length; i++) {
             newNet(asked[i], sizes[i]);
         }
-        PromiseVats one = new PromiseVats(2);
-        PromiseVats other = new PromiseVats(2);
-        due("give", one.give(0, 0, 1), true);
+        Net one = new Net(2);
+        Net other = new Net(2);
+        one.gives(0, 0, 1);
         due("poke", one.poke(0, 0), true);
-        program(one, 0, OUT, 0);
+        one.program(0, OUT, 0);
         due("slot of the other net", other.slot(1, 0), 0);
         due("inbox of the other net", other.inbox(0), 0);
-        run(other, 0, 4);
+        other.run(0, 4);
         due("outputs of the other net", other.count(0, 7), 0);
     }
 
     private static void codeEdges(int op, int least, int most) {
-        PromiseVats net = new PromiseVats(2);
+        Net net = new Net(2);
         due("least x of " + op, net.code(0, op, least), true);
         due("most x of " + op, net.code(7, op, most), true);
         if (least != MIN) {
@@ -110,14 +57,14 @@ public final class PromisesTest {
     }
 
     private static void promise2() {
-        part = "promise 2";
+        sentence("promise 2");
         int[] ops = {SET, ADD, KEEP, PUT, GET, SELF, NEW, SEND, SKIP, OUT, NIL};
         for (int op : ops) {
             boolean slots = op == PUT || op == GET || op == SEND;
             boolean eight = op == NEW || op == SKIP;
             codeEdges(op, slots || eight ? 0 : MIN, slots ? 3 : eight ? 7 : MAX);
         }
-        PromiseVats net = new PromiseVats(2);
+        Net net = new Net(2);
         int[] wrong = {MIN, -1, 8, MAX};
         for (int w : wrong) {
             due("no program " + w, net.code(w, OUT, 0), false);
@@ -130,7 +77,7 @@ public final class PromisesTest {
         }
         due("ninth", net.code(0, OUT, 0), false);
         due("in another program", net.code(1, OUT, 0), true);
-        run(net, 0, 5);
+        net.run(0, 5);
         due("outputs", net.count(0, 7), 4);
         for (int k = 0; k < 4; k++) {
             due("output " + k, net.output(0, k), 2 - k);
@@ -138,22 +85,22 @@ public final class PromisesTest {
     }
 
     private static void promise3() {
-        part = "promise 3";
-        PromiseVats net = new PromiseVats(2);
-        program(net, 0, OUT, 0);
-        program(net, 1, OUT, 0);
+        sentence("promise 3");
+        Net net = new Net(2);
+        net.program(0, OUT, 0);
+        net.program(1, OUT, 0);
         int[] wrong = {MIN, -1, 8, MAX};
         for (int w : wrong) {
             due("no program " + w, net.clear(w), false);
         }
         due("empty one", net.clear(7), true);
-        run(net, 0, 1);
+        net.run(0, 1);
         due("not cleared by refusals", net.count(0, 7), 1);
         due("poke", net.poke(0, 2), true);
         due("clear", net.clear(0), true);
         due("turn", net.turn(0), 1);
         due("a later turn finds it empty", net.count(0, 7), 1);
-        run(net, 1, 3);
+        net.run(1, 3);
         due("another program", net.output(1, 0), 3);
         for (int i = 0; i < 8; i++) {
             due("room again", net.code(0, OUT, 0), true);
@@ -162,8 +109,8 @@ public final class PromisesTest {
     }
 
     private static void promise4() {
-        part = "promise 4";
-        PromiseVats net = new PromiseVats(3);
+        sentence("promise 4");
+        Net net = new Net(3);
         int[] noVat = {MIN, -1, 3, MAX};
         int[] noSlot = {MIN, -1, 4, MAX};
         for (int i = 0; i < 4; i++) {
@@ -172,7 +119,7 @@ public final class PromisesTest {
             due("no slot", net.give(0, noSlot[i], 1), false);
         }
         due("nothing changed", net.imported(0, 2) + net.exported(2, 0) + net.slot(1, 0), 0);
-        due("give", net.give(0, 3, 1), true);
+        net.gives(0, 3, 1);
         due("slot", net.slot(1, 3), 2);
         due("slot of the given", net.slot(2, 3), 0);
         due("again", net.give(0, 0, 1), true);
@@ -193,14 +140,14 @@ public final class PromisesTest {
     }
 
     private static void promise5() {
-        part = "promise 5";
-        PromiseVats net = new PromiseVats(2);
+        sentence("promise 5");
+        Net net = new Net(2);
         int[] wrong = {MIN, -1, 2, MAX};
         for (int w : wrong) {
             due("no vat " + w, net.poke(w, 1), false);
         }
-        program(net, 0, OUT, 0, PUT, 0);
-        due("give", net.give(0, 0, 1), true);
+        net.program(0, OUT, 0, PUT, 0);
+        net.gives(0, 0, 1);
         for (int i = 0; i < 20; i++) {
             due("poke", net.poke(0, i == 0 ? MIN : i == 1 ? MAX : i), true);
         }
@@ -221,8 +168,8 @@ public final class PromisesTest {
         due("last", net.output(0, 0), 99);
         due("no promise for a poke", net.count(0, 1) + net.count(0, 2), 0);
 
-        program(net, 0, SEND, 0, SEND, 0, SEND, 0, SEND, 0, SEND, 0, SEND, 0, SEND, 0, SEND, 0);
-        due("give", net.give(0, 0, 0), true);
+        net.program(0, SEND, 0, SEND, 0, SEND, 0, SEND, 0, SEND, 0, SEND, 0, SEND, 0, SEND, 0);
+        net.gives(0, 0, 0);
         for (int i = 0; i < 20; i++) {
             due("poke", net.poke(0, i), true);
         }
@@ -232,56 +179,56 @@ public final class PromisesTest {
     }
 
     private static void numbersAndSlots() {
-        part = "promise 6, values";
-        PromiseVats net = new PromiseVats(2);
-        program(net, 0, OUT, 0, SET, MAX, KEEP, 5, SET, 1, ADD, 9, OUT, 0, KEEP, 0);
-        run(net, 0, -7);
+        sentence("promise 6, values");
+        Net net = new Net(2);
+        net.program(0, OUT, 0, SET, MAX, KEEP, 5, SET, 1, ADD, 9, OUT, 0, KEEP, 0);
+        net.run(0, -7);
         due("V is the value", net.output(0, 1), -7);
         due("ADD wraps", net.output(0, 0), MIN);
         due("KEEP", net.number(1), MIN);
         due("other numbers", net.number(2), 0);
         for (int s = 0; s < 4; s++) {
-            program(net, 0, SELF, 0, PUT, s, NIL, 0, PUT, (s + 1) % 4, GET, s, PUT, (s + 2) % 4);
-            run(net, 0, 0);
+            net.program(0, SELF, 0, PUT, s, NIL, 0, PUT, (s + 1) % 4, GET, s, PUT, (s + 2) % 4);
+            net.run(0, 0);
             due("PUT", net.slot(1, s), 1);
             due("NONE and PUT", net.slot(1, (s + 1) % 4), 0);
             due("GET", net.slot(1, (s + 2) % 4), 1);
         }
-        program(net, 0, SELF, 0, NIL, 0, PUT, 0, OUT, 0);
-        run(net, 0, 8);
+        net.program(0, SELF, 0, NIL, 0, PUT, 0, OUT, 0);
+        net.run(0, 8);
         due("NONE", net.slot(1, 0), 0);
         due("references leave V", net.output(0, 0), 8);
     }
 
     private static void skips() {
-        part = "promise 6, SKIP";
-        PromiseVats net = new PromiseVats(2);
-        program(net, 0, SKIP, 2, SET, 5, OUT, 0, OUT, 0);
-        run(net, 0, 0);
+        sentence("promise 6, SKIP");
+        Net net = new Net(2);
+        net.program(0, SKIP, 2, SET, 5, OUT, 0, OUT, 0);
+        net.run(0, 0);
         due("V is 0", net.count(0, 7), 1);
         due("V is 0", net.output(0, 0), 0);
-        run(net, 0, -1);
+        net.run(0, -1);
         due("V is not 0", net.count(0, 7), 3);
         due("V is not 0", net.output(0, 1), 5);
-        program(net, 0, SKIP, 7, OUT, 0);
-        run(net, 0, 0);
+        net.program(0, SKIP, 7, OUT, 0);
+        net.run(0, 0);
         due("past the end", net.count(0, 7), 3);
-        program(net, 0, OUT, 0);
-        run(net, 0, 6);
+        net.program(0, OUT, 0);
+        net.run(0, 6);
         due("none left out in the next turn", net.output(0, 0), 6);
-        program(net, 0, SKIP, 0, OUT, 0);
-        run(net, 0, 0);
+        net.program(0, SKIP, 0, OUT, 0);
+        net.run(0, 0);
         due("SKIP 0", net.count(0, 7), 5);
-        program(net, 0, SKIP, 1, SKIP, 2, OUT, 0, SKIP, 1, OUT, 0, OUT, 0);
-        run(net, 0, 0);
+        net.program(0, SKIP, 1, SKIP, 2, OUT, 0, SKIP, 1, OUT, 0, OUT, 0);
+        net.run(0, 0);
         due("a SKIP that is left out", net.count(0, 7), 7);
     }
 
     private static void newObjects() {
-        part = "promise 6, NEW";
-        PromiseVats net = new PromiseVats(3);
-        program(net, 1, SELF, 0, NEW, 5, PUT, 2);
-        run(net, 1, 9);
+        sentence("promise 6, NEW");
+        Net net = new Net(3);
+        net.program(1, SELF, 0, NEW, 5, PUT, 2);
+        net.run(1, 9);
         due("R", net.slot(2, 2), 4);
         due("home", net.home(4), 1);
         due("number", net.number(4), 9);
@@ -289,37 +236,37 @@ public final class PromisesTest {
         for (int s = 1; s < 4; s++) {
             due("other slots", net.slot(4, s), 0);
         }
-        program(net, 1, SEND, 2);
-        program(net, 5, ADD, 0, OUT, 0);
-        run(net, 1, 30);
+        net.program(1, SEND, 2);
+        net.program(5, ADD, 0, OUT, 0);
+        net.run(1, 30);
         due("its turn", net.turn(1), 4);
         due("its program", net.output(1, 0), 39);
-        program(net, 0, NEW, 5, NEW, 5, NEW, 5, NEW, 5, NEW, 5, NEW, 5, NEW, 5, PUT, 1);
+        net.program(0, NEW, 5, NEW, 5, NEW, 5, NEW, 5, NEW, 5, NEW, 5, NEW, 5, PUT, 1);
         for (int i = 0; i < 8; i++) {
-            run(net, 0, i);
+            net.run(0, i);
         }
         due("60 were made", net.slot(1, 1), 60);
         due("count", net.count(0, 0), 57);
-        run(net, 0, 8);
+        net.run(0, 8);
         due("no more", net.slot(1, 1), 0);
         due("no object 61", net.home(61), -1);
         due("count", net.count(0, 0), 57);
         due("freed", net.sweep(0), 56);
-        run(net, 0, 9);
+        net.run(0, 9);
         due("numbers are not used again", net.slot(1, 1), 0);
         due("count", net.count(0, 0), 1);
     }
 
     private static void sendsAtHome() {
-        part = "promise 6, SEND at home";
-        PromiseVats net = new PromiseVats(2);
-        program(net, 0, SELF, 0, SEND, 2, PUT, 1);
-        run(net, 0, 3);
+        sentence("promise 6, SEND at home");
+        Net net = new Net(2);
+        net.program(0, SELF, 0, SEND, 2, PUT, 1);
+        net.run(0, 3);
         due("none in the slot", net.slot(1, 1), 0);
         due("none was made", net.home(101), -1);
-        due("give", net.give(0, 2, 0), true);
-        program(net, 0, SELF, 0, SEND, 2, PUT, 1, SET, 4, OUT, 0);
-        run(net, 0, 3);
+        net.gives(0, 2, 0);
+        net.program(0, SELF, 0, SEND, 2, PUT, 1, SET, 4, OUT, 0);
+        net.run(0, 3);
         due("R is the promise", net.slot(1, 1), 101);
         due("home", net.home(101), 0);
         due("x", net.exported(101, 1), 0);
@@ -327,7 +274,7 @@ public final class PromisesTest {
         due("nothing flies", net.flying(0, 1), 0);
         due("inbox", net.inbox(0), 1);
         due("open", net.resolved(101), -1);
-        program(net, 0, OUT, 0, PUT, 3);
+        net.program(0, OUT, 0, PUT, 3);
         due("turn", net.turn(0), 1);
         due("value", net.output(0, 0), 3);
         due("argument", net.slot(1, 3), 1);
@@ -335,10 +282,10 @@ public final class PromisesTest {
     }
 
     private static void sendLimit() {
-        part = "promise 6, 100 promises";
-        PromiseVats net = new PromiseVats(2);
-        due("give", net.give(0, 0, 0), true);
-        program(net, 0, SEND, 0, SEND, 0, SEND, 0, SEND, 0, SEND, 0, SEND, 0, SEND, 0, PUT, 1);
+        sentence("promise 6, 100 promises");
+        Net net = new Net(2);
+        net.gives(0, 0, 0);
+        net.program(0, SEND, 0, SEND, 0, SEND, 0, SEND, 0, SEND, 0, SEND, 0, SEND, 0, PUT, 1);
         due("poke", net.poke(0, 1), true);
         for (int i = 1; i <= 14; i++) {
             due("turn", net.turn(0), 1);
@@ -353,11 +300,11 @@ public final class PromisesTest {
     }
 
     private static void sendsAway() {
-        part = "promise 6, SEND to another vat";
-        PromiseVats net = new PromiseVats(2);
-        due("give", net.give(0, 0, 1), true);
-        program(net, 0, NEW, 7, SEND, 0, PUT, 1, SEND, 0);
-        run(net, 0, 6);
+        sentence("promise 6, SEND to another vat");
+        Net net = new Net(2);
+        net.gives(0, 0, 1);
+        net.program(0, NEW, 7, SEND, 0, PUT, 1, SEND, 0);
+        net.run(0, 6);
         due("flying", net.flying(0, 1), 2);
         due("promise", net.slot(1, 1), 101);
         due("at home with the target", net.home(101), 1);
@@ -365,7 +312,7 @@ public final class PromisesTest {
         due("c", net.imported(0, 101), 1);
         due("x of the argument", net.exported(3, 1), 1);
         due("c of the argument before", net.imported(1, 3), 0);
-        program(net, 1, PUT, 2, OUT, 0);
+        net.program(1, PUT, 2, OUT, 0);
         due("deliver", net.deliver(0, 1), 1);
         due("c of the argument", net.imported(1, 3), 1);
         due("turn", net.turn(1), 2);
@@ -381,8 +328,8 @@ public final class PromisesTest {
     }
 
     private static void promise6() {
-        part = "promise 6";
-        PromiseVats net = new PromiseVats(2);
+        sentence("promise 6");
+        Net net = new Net(2);
         int[] wrong = {MIN, -1, 2, MAX};
         due("poke", net.poke(0, 1), true);
         for (int w : wrong) {
@@ -400,16 +347,16 @@ public final class PromisesTest {
     }
 
     private static void deliveredInOrder() {
-        part = "promise 7, order";
-        PromiseVats net = new PromiseVats(3);
-        due("give", net.give(0, 0, 1), true);
-        due("give", net.give(0, 1, 2), true);
-        due("give", net.give(2, 0, 1), true);
-        program(net, 0, SEND, 0, SET, 2, SEND, 0, SEND, 1, SET, 3, NIL, 0, SEND, 0);
-        program(net, 1, OUT, 0);
-        program(net, 2, SEND, 0);
-        run(net, 0, 1);
-        run(net, 2, 10);
+        sentence("promise 7, order");
+        Net net = new Net(3);
+        net.gives(0, 0, 1);
+        net.gives(0, 1, 2);
+        net.gives(2, 0, 1);
+        net.program(0, SEND, 0, SET, 2, SEND, 0, SEND, 1, SET, 3, NIL, 0, SEND, 0);
+        net.program(1, OUT, 0);
+        net.program(2, SEND, 0);
+        net.run(0, 1);
+        net.run(2, 10);
         due("from 0 to 1, with a gift", net.flying(0, 1), 4);
         due("from 0 to 2", net.flying(0, 2), 1);
         due("from 2 to 1", net.flying(2, 1), 1);
@@ -434,16 +381,16 @@ public final class PromisesTest {
         due("the other is still there", net.flying(0, 2), 1);
     }
 
-    private static PromiseVats sentBack() {
-        PromiseVats net = new PromiseVats(2);
-        due("give", net.give(0, 0, 1), true);
-        program(net, 0, SELF, 0, SEND, 0, PUT, 1);
-        run(net, 0, 0);
+    private static Net sentBack() {
+        Net net = new Net(2);
+        net.gives(0, 0, 1);
+        net.program(0, SELF, 0, SEND, 0, PUT, 1);
+        net.run(0, 0);
         due("deliver", net.deliver(0, 1), 1);
         due("turn", net.turn(1), 2);
         due("answer", net.resolved(101), 1);
-        program(net, 0, NEW, 7, SEND, 1, PUT, 2);
-        run(net, 0, 4);
+        net.program(0, NEW, 7, SEND, 1, PUT, 2);
+        net.run(0, 4);
         due("a call of the promise", net.deliver(0, 1), 1);
         due("is sent on", net.flying(1, 0), 1);
         due("does not stay", net.inbox(1) + net.count(1, 6), 0);
@@ -451,14 +398,14 @@ public final class PromisesTest {
     }
 
     private static void sentOnAndResolved() {
-        part = "promise 7, RESOLVE";
-        PromiseVats net = sentBack();
+        sentence("promise 7, RESOLVE");
+        Net net = sentBack();
         due("x of the argument for 1", net.exported(3, 1), 1);
         due("c of the argument at 1", net.imported(1, 3), 1);
         due("CALL", net.deliver(1, 0), 1);
         due("nothing at home", net.exported(3, 1), 1);
         due("c at home", net.imported(0, 3), 0);
-        program(net, 0, PUT, 3, NEW, 6);
+        net.program(0, PUT, 3, NEW, 6);
         due("turn", net.turn(0), 1);
         due("the same argument", net.slot(1, 3), 3);
         due("open until told", net.resolved(102), -1);
@@ -472,9 +419,9 @@ public final class PromisesTest {
     }
 
     private static void resolveOfFreed() {
-        part = "promise 7, RESOLVE of a freed promise";
-        PromiseVats net = sentBack();
-        program(net, 0, NIL, 0, PUT, 2, PUT, 1, NEW, 6);
+        sentence("promise 7, RESOLVE of a freed promise");
+        Net net = sentBack();
+        net.program(0, NIL, 0, PUT, 2, PUT, 1, NEW, 6);
         due("poke", net.poke(0, 0), true);
         due("CALL", net.deliver(1, 0), 1);
         due("turn", net.turn(0), 1);
@@ -492,38 +439,38 @@ public final class PromisesTest {
     }
 
     private static void giftsAndRedeems() {
-        part = "promise 7, gifts";
-        PromiseVats net = new PromiseVats(4);
+        sentence("promise 7, gifts");
+        Net net = new Net(4);
         int[] givers = {0, 3};
         for (int v : givers) {
-            due("give", net.give(v, 0, 1), true);
-            due("give", net.give(v, 1, 2), true);
-            program(net, v, GET, 1, SEND, 0);
-            run(net, v, 0);
+            net.gives(v, 0, 1);
+            net.gives(v, 1, 2);
+            net.program(v, GET, 1, SEND, 0);
+            net.run(v, 0);
         }
         due("no x for the taker yet", net.exported(3, 1), 0);
         due("GIFT", net.deliver(0, 2), 4);
-        counts(net, 2, 1, 0, 0, 0, 1, 0);
+        net.counts(2, 1, 0, 0, 0, 1, 0);
         due("CALL", net.deliver(3, 1), 1);
         due("c", net.imported(1, 3), 1);
         due("REDEEM", net.deliver(1, 2), 5);
-        counts(net, 2, 1, 0, 0, 0, 1, 1);
+        net.counts(2, 1, 0, 0, 0, 1, 1);
         due("no pair of different givers", net.exported(3, 1), 0);
         due("GIFT", net.deliver(3, 2), 4);
-        counts(net, 2, 1, 0, 0, 0, 1, 0);
+        net.counts(2, 1, 0, 0, 0, 1, 0);
         due("a pair", net.exported(3, 1), 1);
         due("CALL", net.deliver(0, 1), 1);
         due("c", net.imported(1, 3), 2);
         due("REDEEM", net.deliver(1, 2), 5);
-        counts(net, 2, 1, 0, 0, 0, 0, 0);
+        net.counts(2, 1, 0, 0, 0, 0, 0);
         due("two pairs", net.exported(3, 1), 2);
         due("the givers keep theirs", net.exported(3, 0) + net.exported(3, 3), 2);
         for (int i = 0; i < 2; i++) {
-            run(net, 0, 0);
+            net.run(0, 0);
             due("CALL", net.deliver(0, 1), 1);
             due("REDEEM", net.deliver(1, 2), 5);
         }
-        counts(net, 2, 1, 0, 0, 0, 0, 2);
+        net.counts(2, 1, 0, 0, 0, 0, 2);
         due("x", net.exported(3, 1), 2);
         for (int i = 1; i <= 2; i++) {
             due("GIFT", net.deliver(0, 2), 4);
@@ -545,20 +492,20 @@ public final class PromisesTest {
     }
 
     private static void lostAtFullPromise() {
-        part = "a full promise";
-        PromiseVats net = new PromiseVats(2);
-        due("give", net.give(0, 0, 1), true);
-        program(net, 0, SEND, 0, PUT, 1);
-        run(net, 0, 0);
-        program(net, 0, SEND, 1);
+        sentence("a full promise");
+        Net net = new Net(2);
+        net.gives(0, 0, 1);
+        net.program(0, SEND, 0, PUT, 1);
+        net.run(0, 0);
+        net.program(0, SEND, 1);
         for (int i = 0; i < 9; i++) {
-            run(net, 0, i);
+            net.run(0, i);
         }
-        deliverAll(net, 0, 1, 1);
+        net.deliverAll(0, 1, 1);
         due("eight wait", net.count(1, 6), 8);
         due("the eighth", net.resolved(109), -1);
         due("the ninth is lost", net.resolved(110), 0);
-        program(net, 1, OUT, 0, SELF, 0);
+        net.program(1, OUT, 0, SELF, 0);
         due("turn", net.turn(1), 2);
         due("none waits", net.count(1, 6), 0);
         due("inbox", net.inbox(1), 8);
@@ -570,23 +517,23 @@ public final class PromisesTest {
     }
 
     private static void lostWhenSentOn() {
-        part = "a promise that fills when calls are sent on";
-        PromiseVats net = new PromiseVats(2);
-        due("give", net.give(0, 0, 1), true);
-        program(net, 0, SEND, 0, PUT, 1, SEND, 1, PUT, 2, SEND, 0, PUT, 3);
-        run(net, 0, 0);
-        program(net, 0, SEND, 2, SEND, 2, SEND, 2);
-        run(net, 0, 0);
-        program(net, 0, SEND, 3, SEND, 3, SEND, 3, SEND, 3, SEND, 3, SEND, 3, SEND, 3, SEND, 3);
-        run(net, 0, 0);
-        deliverAll(net, 0, 1, 1);
+        sentence("a promise that fills when calls are sent on");
+        Net net = new Net(2);
+        net.gives(0, 0, 1);
+        net.program(0, SEND, 0, PUT, 1, SEND, 1, PUT, 2, SEND, 0, PUT, 3);
+        net.run(0, 0);
+        net.program(0, SEND, 2, SEND, 2, SEND, 2);
+        net.run(0, 0);
+        net.program(0, SEND, 3, SEND, 3, SEND, 3, SEND, 3, SEND, 3, SEND, 3, SEND, 3, SEND, 3);
+        net.run(0, 0);
+        net.deliverAll(0, 1, 1);
         due("waiting", net.count(1, 6), 12);
         due("inbox", net.inbox(1), 2);
-        program(net, 1, SELF, 0);
+        net.program(1, SELF, 0);
         due("turn", net.turn(1), 2);
         due("resolved to the root", net.resolved(101), 2);
         due("waiting", net.count(1, 6), 11);
-        program(net, 1);
+        net.program(1);
         due("turn", net.turn(1), 2);
         due("resolved to a promise", net.resolved(103), 102);
         due("waiting", net.count(1, 6), 8);
@@ -601,29 +548,29 @@ public final class PromisesTest {
     }
 
     /** A promise of vat 0, in slot 0 of its root, that is resolved to what is in another slot. */
-    private static void forward(PromiseVats net, int s) {
-        program(net, 0, SEND, 1, PUT, 0);
-        run(net, 0, 0);
-        program(net, 0, GET, s);
+    private static void forward(Net net, int s) {
+        net.program(0, SEND, 1, PUT, 0);
+        net.run(0, 0);
+        net.program(0, GET, s);
         due("turn", net.turn(0), 1);
-        program(net, 0, SEND, 0);
-        run(net, 0, 0);
+        net.program(0, SEND, 0);
+        net.run(0, 0);
     }
 
     private static void lostInOrder() {
-        part = "the order of losses";
-        PromiseVats net = new PromiseVats(2);
-        due("give", net.give(0, 0, 1), true);
-        due("give", net.give(0, 1, 0), true);
-        program(net, 0, SEND, 0, PUT, 2);
-        run(net, 0, 0);
-        program(net, 0, SEND, 2, PUT, 3);
-        run(net, 0, 0);
+        sentence("the order of losses");
+        Net net = new Net(2);
+        net.gives(0, 0, 1);
+        net.gives(0, 1, 0);
+        net.program(0, SEND, 0, PUT, 2);
+        net.run(0, 0);
+        net.program(0, SEND, 2, PUT, 3);
+        net.run(0, 0);
         forward(net, 2);
         due("resolved to the promise of another vat", net.resolved(103), 101);
         forward(net, 3);
         due("resolved to the promise of another vat", net.resolved(105), 102);
-        deliverAll(net, 0, 1, 1);
+        net.deliverAll(0, 1, 1);
         due("waiting", net.count(1, 6), 3);
         due("turn", net.turn(1), 2);
         due("none", net.resolved(101), 0);
@@ -639,28 +586,28 @@ public final class PromisesTest {
     }
 
     private static void rings() {
-        part = "rings";
-        PromiseVats net = new PromiseVats(2);
-        due("give", net.give(0, 0, 0), true);
-        program(net, 0, SEND, 0, PUT, 1);
-        run(net, 0, 0);
-        program(net, 0, GET, 1);
+        sentence("rings");
+        Net net = new Net(2);
+        net.gives(0, 0, 0);
+        net.program(0, SEND, 0, PUT, 1);
+        net.run(0, 0);
+        net.program(0, GET, 1);
         due("turn", net.turn(0), 1);
         due("itself", net.resolved(101), 0);
-        program(net, 0, SEND, 1, PUT, 2);
-        run(net, 0, 0);
+        net.program(0, SEND, 1, PUT, 2);
+        net.run(0, 0);
         due("lost in the turn", net.resolved(102), 0);
         due("R is the promise", net.slot(1, 2), 102);
 
-        program(net, 0, SEND, 0, PUT, 1, SEND, 0, PUT, 2, SEND, 0, PUT, 3);
-        run(net, 0, 0);
-        program(net, 0, GET, 2);
+        net.program(0, SEND, 0, PUT, 1, SEND, 0, PUT, 2, SEND, 0, PUT, 3);
+        net.run(0, 0);
+        net.program(0, GET, 2);
         due("turn", net.turn(0), 1);
         due("first", net.resolved(103), 104);
-        program(net, 0, GET, 3);
+        net.program(0, GET, 3);
         due("turn", net.turn(0), 1);
         due("second", net.resolved(104), 105);
-        program(net, 0, GET, 1);
+        net.program(0, GET, 1);
         due("turn", net.turn(0), 1);
         due("leads to itself", net.resolved(105), 0);
 
@@ -668,19 +615,19 @@ public final class PromisesTest {
     }
 
     private static void ringOverVats() {
-        PromiseVats net = new PromiseVats(2);
-        due("give", net.give(0, 0, 1), true);
-        due("give", net.give(0, 1, 0), true);
-        program(net, 0, SEND, 1, PUT, 2, SEND, 0, PUT, 3);
-        run(net, 0, 0);
+        Net net = new Net(2);
+        net.gives(0, 0, 1);
+        net.gives(0, 1, 0);
+        net.program(0, SEND, 1, PUT, 2, SEND, 0, PUT, 3);
+        net.run(0, 0);
         due("deliver", net.deliver(0, 1), 1);
         due("turn", net.turn(1), 2);
         due("of vat 1, to vat 0", net.resolved(102), 101);
-        program(net, 0, GET, 3);
+        net.program(0, GET, 3);
         due("turn", net.turn(0), 1);
         due("of vat 0, to vat 1: only those at home count", net.resolved(101), 102);
-        program(net, 0, SEND, 2);
-        run(net, 0, 0);
+        net.program(0, SEND, 2);
+        net.run(0, 0);
         for (int i = 0; i < 5; i++) {
             due("goes round", net.deliver(0, 1), 1);
             due("goes round", net.deliver(1, 0), 1);
@@ -690,10 +637,10 @@ public final class PromisesTest {
     }
 
     private static void sweptRoots() {
-        part = "promise 8, inbox";
-        PromiseVats net = new PromiseVats(2);
-        program(net, 0, NEW, 4, PUT, 0, NIL, 0, SEND, 0, NIL, 0, PUT, 0);
-        run(net, 0, 0);
+        sentence("promise 8, inbox");
+        Net net = new Net(2);
+        net.program(0, NEW, 4, PUT, 0, NIL, 0, SEND, 0, NIL, 0, PUT, 0);
+        net.run(0, 0);
         due("the answer is freed", net.sweep(0), 1);
         due("freed", net.home(101), -1);
         due("the target is not", net.home(3), 0);
@@ -703,18 +650,18 @@ public final class PromisesTest {
         due("freed", net.home(3), -1);
         due("once only", net.sweep(0), 0);
 
-        due("give", net.give(0, 1, 0), true);
-        program(net, 0, NEW, 4, SEND, 1);
-        run(net, 0, 0);
+        net.gives(0, 1, 0);
+        net.program(0, NEW, 4, SEND, 1);
+        net.run(0, 0);
         due("the answer is freed", net.sweep(0), 1);
         due("the argument is not", net.home(4), 0);
-        program(net, 0);
+        net.program(0);
         due("turn", net.turn(0), 1);
         due("now it is", net.sweep(0), 1);
 
-        part = "promise 8, waiting calls";
-        program(net, 0, SEND, 1, PUT, 2, NEW, 4, SEND, 2, NIL, 0, PUT, 2);
-        run(net, 0, 0);
+        sentence("promise 8, waiting calls");
+        net.program(0, SEND, 1, PUT, 2, NEW, 4, SEND, 2, NIL, 0, PUT, 2);
+        net.run(0, 0);
         due("only the answer of the call that waits", net.sweep(0), 1);
         due("answer", net.home(104), -1);
         due("promise with a call", net.home(103), 0);
@@ -722,42 +669,42 @@ public final class PromisesTest {
     }
 
     private static void sweptChains() {
-        part = "promise 8, what is further reached";
-        PromiseVats net = new PromiseVats(2);
-        due("give", net.give(0, 3, 0), true);
-        due("give", net.give(0, 2, 1), true);
-        program(net, 0, GET, 2, NEW, 4, NEW, 4, SEND, 3, PUT, 0, NIL, 0, PUT, 2);
-        run(net, 0, 0);
-        program(net, 0);
+        sentence("promise 8, what is further reached");
+        Net net = new Net(2);
+        net.gives(0, 3, 0);
+        net.gives(0, 2, 1);
+        net.program(0, GET, 2, NEW, 4, NEW, 4, SEND, 3, PUT, 0, NIL, 0, PUT, 2);
+        net.run(0, 0);
+        net.program(0);
         due("turn", net.turn(0), 1);
         due("resolved", net.resolved(101), 4);
         due("all is reached", net.sweep(0), 0);
         due("no release", net.flying(0, 1), 0);
-        program(net, 0, PUT, 0);
-        run(net, 0, 0);
+        net.program(0, PUT, 0);
+        net.run(0, 0);
         due("nothing of it is", net.sweep(0), 3);
-        counts(net, 0, 1, 0, 0, 0);
+        net.counts(0, 1, 0, 0, 0);
         due("release", net.flying(0, 1), 1);
         due("slot of a freed object", net.slot(4, 0), 0);
         due("freed promise", net.resolved(101), -1);
         due("RELEASE", net.deliver(0, 1), 3);
         due("x", net.exported(2, 0), 0);
 
-        part = "promise 8, of other vats nothing more";
-        net = new PromiseVats(2);
-        due("give", net.give(0, 0, 1), true);
-        due("give", net.give(1, 0, 0), true);
-        program(net, 0, NEW, 4, PUT, 1);
-        run(net, 0, 0);
-        program(net, 0, GET, 1, SEND, 0, NIL, 0, PUT, 1);
-        program(net, 1, PUT, 1);
-        run(net, 0, 0);
+        sentence("promise 8, of other vats nothing more");
+        net = new Net(2);
+        net.gives(0, 0, 1);
+        net.gives(1, 0, 0);
+        net.program(0, NEW, 4, PUT, 1);
+        net.run(0, 0);
+        net.program(0, GET, 1, SEND, 0, NIL, 0, PUT, 1);
+        net.program(1, PUT, 1);
+        net.run(0, 0);
         due("deliver", net.deliver(0, 1), 1);
         due("turn", net.turn(1), 2);
         due("the other vat has it", net.slot(2, 1), 3);
         due("x holds it", net.sweep(0), 0);
         due("deliver", net.deliver(0, 1), 3);
-        due("give", net.give(1, 1, 1), true);
+        net.gives(1, 1, 1);
         due("sweep frees the answer", net.sweep(1), 1);
         due("RELEASE", net.deliver(1, 0), 3);
         due("x", net.exported(3, 1), 0);
@@ -766,19 +713,19 @@ public final class PromisesTest {
     }
 
     private static void sweptSlots() {
-        part = "promise 8, slots";
-        PromiseVats net = new PromiseVats(3);
-        program(net, 0, NEW, 4, PUT, 0, NEW, 4, PUT, 1, NEW, 4, PUT, 2, NEW, 4, PUT, 3);
-        run(net, 0, 0);
+        sentence("promise 8, slots");
+        Net net = new Net(3);
+        net.program(0, NEW, 4, PUT, 0, NEW, 4, PUT, 1, NEW, 4, PUT, 2, NEW, 4, PUT, 3);
+        net.run(0, 0);
         due("each slot is looked at", net.sweep(0), 0);
         for (int s = 0; s < 4; s++) {
-            due("give", net.give(0, s, 0), true);
+            net.gives(0, s, 0);
             due("each has the one before it", net.sweep(0), s == 3 ? 4 : 0);
         }
-        due("give", net.give(0, 0, 1), true);
-        due("give", net.give(0, 1, 2), true);
-        due("give", net.give(1, 0, 2), true);
-        due("give", net.give(0, 1, 0), true);
+        net.gives(0, 0, 1);
+        net.gives(0, 1, 2);
+        net.gives(1, 0, 2);
+        net.gives(0, 1, 0);
         due("sweep", net.sweep(0), 0);
         due("slots of another vat's object hold nothing here", net.flying(0, 2), 1);
         due("the object itself is held", net.imported(0, 2), 1);
@@ -786,13 +733,13 @@ public final class PromisesTest {
     }
 
     private static void objectSweptByGift() {
-        part = "promise 8, a gift of an object that waits";
-        PromiseVats net = new PromiseVats(3);
-        due("give", net.give(2, 0, 0), true);
-        due("give", net.give(0, 1, 1), true);
-        program(net, 2, NEW, 5, SEND, 0);
-        program(net, 0, SEND, 1);
-        run(net, 2, 0);
+        sentence("promise 8, a gift of an object that waits");
+        Net net = new Net(3);
+        net.gives(2, 0, 0);
+        net.gives(0, 1, 1);
+        net.program(2, NEW, 5, SEND, 0);
+        net.program(0, SEND, 1);
+        net.run(2, 0);
         due("CALL", net.deliver(2, 0), 1);
         due("turn", net.turn(0), 1);
         due("sweep", net.sweep(0), 0);
@@ -806,18 +753,18 @@ public final class PromisesTest {
     }
 
     private static void sweptByGift() {
-        part = "promise 8, a gift that waits";
-        PromiseVats net = new PromiseVats(3);
-        due("give", net.give(0, 0, 2), true);
-        due("give", net.give(0, 1, 1), true);
-        program(net, 0, SEND, 0, PUT, 2);
-        program(net, 2, NEW, 5);
-        run(net, 0, 0);
+        sentence("promise 8, a gift that waits");
+        Net net = new Net(3);
+        net.gives(0, 0, 2);
+        net.gives(0, 1, 1);
+        net.program(0, SEND, 0, PUT, 2);
+        net.program(2, NEW, 5);
+        net.run(0, 0);
         due("CALL", net.deliver(0, 2), 1);
         due("turn", net.turn(2), 3);
         due("resolved", net.resolved(101), 4);
-        program(net, 0, GET, 2, SEND, 1, NIL, 0, PUT, 2);
-        run(net, 0, 0);
+        net.program(0, GET, 2, SEND, 1, NIL, 0, PUT, 2);
+        net.run(0, 0);
         due("sweep", net.sweep(0), 0);
         due("GIFT", net.deliver(0, 2), 4);
         due("RELEASE", net.deliver(0, 2), 3);
@@ -833,16 +780,16 @@ public final class PromisesTest {
         due("the answer is freed", net.sweep(1), 1);
         due("RELEASE", net.deliver(1, 2), 3);
         due("nothing holds it", net.sweep(2), 2);
-        counts(net, 2, 1, 0, 0, 0, 0, 0, 0, 0);
+        net.counts(2, 1, 0, 0, 0, 0, 0, 0, 0);
     }
 
     private static void releasesInOrder() {
-        part = "promise 8, releases";
-        PromiseVats net = new PromiseVats(2);
-        due("give", net.give(0, 0, 1), true);
-        due("give", net.give(0, 0, 1), true);
-        program(net, 0, SEND, 0, SEND, 0, NIL, 0, PUT, 0);
-        run(net, 0, 0);
+        sentence("promise 8, releases");
+        Net net = new Net(2);
+        net.gives(0, 0, 1);
+        net.gives(0, 0, 1);
+        net.program(0, SEND, 0, SEND, 0, NIL, 0, PUT, 0);
+        net.run(0, 0);
         due("imports", net.count(0, 3), 3);
         due("sweep", net.sweep(0), 0);
         due("no imports", net.count(0, 3), 0);
@@ -865,18 +812,18 @@ public final class PromisesTest {
     }
 
     private static void belowZero() {
-        part = "promise 8, x below 0";
-        PromiseVats net = new PromiseVats(3);
-        due("give", net.give(0, 0, 1), true);
-        due("give", net.give(0, 1, 2), true);
-        program(net, 0, SEND, 1, SEND, 0);
-        run(net, 0, 0);
+        sentence("promise 8, x below 0");
+        Net net = new Net(3);
+        net.gives(0, 0, 1);
+        net.gives(0, 1, 2);
+        net.program(0, SEND, 1, SEND, 0);
+        net.run(0, 0);
         due("CALL", net.deliver(0, 1), 1);
         due("turn", net.turn(1), 2);
         due("CALL", net.deliver(0, 2), 1);
         due("sweep", net.sweep(1), 0);
         due("still has it in its answer", net.imported(1, 101), 1);
-        program(net, 0);
+        net.program(0);
         due("sweep", net.sweep(0), 0);
         due("RELEASE", net.deliver(0, 1), 3);
         due("the answer is freed", net.sweep(1), 1);
@@ -893,8 +840,8 @@ public final class PromisesTest {
     }
 
     private static void promise8() {
-        part = "promise 8";
-        PromiseVats net = new PromiseVats(2);
+        sentence("promise 8");
+        Net net = new Net(2);
         int[] wrong = {MIN, -1, 2, MAX};
         for (int w : wrong) {
             due("no vat", net.sweep(w), -1);
@@ -910,22 +857,22 @@ public final class PromisesTest {
     }
 
     /** Three vats in which something of every kind is there to be asked for. */
-    private static PromiseVats busyNet() {
-        PromiseVats net = new PromiseVats(3);
-        due("give", net.give(0, 0, 1), true);
-        due("give", net.give(0, 1, 2), true);
-        program(net, 0, SEND, 0, PUT, 2, SEND, 2, GET, 1, SEND, 2, NEW, 3, PUT, 3);
-        run(net, 0, 5);
-        program(net, 0, KEEP, 0, OUT, 0);
-        run(net, 0, -4);
+    private static Net busyNet() {
+        Net net = new Net(3);
+        net.gives(0, 0, 1);
+        net.gives(0, 1, 2);
+        net.program(0, SEND, 0, PUT, 2, SEND, 2, GET, 1, SEND, 2, NEW, 3, PUT, 3);
+        net.run(0, 5);
+        net.program(0, KEEP, 0, OUT, 0);
+        net.run(0, -4);
         due("poke", net.poke(0, 1), true);
         due("poke", net.poke(0, 2), true);
         return net;
     }
 
     private static void promises9And10() {
-        part = "promise 9";
-        PromiseVats net = busyNet();
+        sentence("promise 9");
+        Net net = busyNet();
         due("calls", net.flying(0, 1), 3);
         due("gift", net.flying(0, 2), 1);
         due("none", net.flying(1, 0) + net.flying(2, 0) + net.flying(2, 1), 0);
@@ -937,7 +884,7 @@ public final class PromisesTest {
         due("deliver", net.deliver(0, 1), 1);
         due("one less", net.flying(0, 1), 2);
 
-        part = "promise 10";
+        sentence("promise 10");
         due("pokes", net.inbox(0), 2);
         due("delivered", net.inbox(1), 1);
         due("none", net.inbox(2), 0);
@@ -951,30 +898,30 @@ public final class PromisesTest {
     }
 
     private static void promise11() {
-        part = "promise 11";
-        PromiseVats net = busyNet();
-        counts(net, 0, 2, 0, 0, 5, 0, 0, 0, 1);
-        counts(net, 1, 1, 3, 0, 0, 0, 0, 0, 0);
-        counts(net, 2, 1, 0, 0, 0, 0, 0, 0, 0);
-        deliverAll(net, 0, 1, 1);
+        sentence("promise 11");
+        Net net = busyNet();
+        net.counts(0, 2, 0, 0, 5, 0, 0, 0, 1);
+        net.counts(1, 1, 3, 0, 0, 0, 0, 0, 0);
+        net.counts(2, 1, 0, 0, 0, 0, 0, 0, 0);
+        net.deliverAll(0, 1, 1);
         due("GIFT", net.deliver(0, 2), 4);
-        counts(net, 1, 1, 3, 0, 1, 0, 0, 2, 0);
-        counts(net, 2, 1, 0, 0, 0, 1, 0, 0, 0);
+        net.counts(1, 1, 3, 0, 1, 0, 0, 2, 0);
+        net.counts(2, 1, 0, 0, 0, 1, 0, 0, 0);
         due("REDEEM", net.deliver(1, 2), 5);
-        counts(net, 2, 1, 0, 0, 0, 0, 0, 0, 0);
+        net.counts(2, 1, 0, 0, 0, 0, 0, 0, 0);
         due("turn", net.turn(1), 2);
-        counts(net, 1, 1, 0, 3, 1, 0, 0, 0, 0);
+        net.counts(1, 1, 0, 3, 1, 0, 0, 0, 0);
         int[] noKind = {MIN, -1, 8, MAX};
         int[] noVat = {MIN, -1, 3, MAX};
         for (int i = 0; i < 4; i++) {
             due("no kind", net.count(0, noKind[i]) + net.count(1, noKind[i]), 0);
-            counts(net, noVat[i], 0, 0, 0, 0, 0, 0, 0, 0);
+            net.counts(noVat[i], 0, 0, 0, 0, 0, 0, 0, 0);
         }
     }
 
     private static void promises12And13() {
-        part = "promise 12";
-        PromiseVats net = busyNet();
+        sentence("promise 12");
+        Net net = busyNet();
         due("given", net.imported(0, 2), 1);
         due("promise", net.imported(0, 101), 1);
         due("at home", net.imported(0, 1) + net.imported(1, 101) + net.imported(0, 4), 0);
@@ -990,7 +937,7 @@ public final class PromisesTest {
                 due("no entity", net.exported(e, v), 0);
             }
         }
-        part = "promise 13";
+        sentence("promise 13");
         due("given", net.exported(2, 0), 1);
         due("promise", net.exported(101, 0), 1);
         due("its home", net.exported(2, 1) + net.exported(101, 1), 0);
@@ -1001,12 +948,12 @@ public final class PromisesTest {
     }
 
     private static void freedEntity() {
-        part = "freed entities";
-        PromiseVats net = new PromiseVats(2);
-        due("give", net.give(0, 0, 0), true);
-        program(net, 0, SELF, 0, NEW, 6, SEND, 0);
-        run(net, 0, 3);
-        program(net, 0);
+        sentence("freed entities");
+        Net net = new Net(2);
+        net.gives(0, 0, 0);
+        net.program(0, SELF, 0, NEW, 6, SEND, 0);
+        net.run(0, 3);
+        net.program(0);
         due("turn", net.turn(0), 1);
         due("number before", net.number(3), 3);
         due("slot before", net.slot(3, 0), 1);
@@ -1018,15 +965,15 @@ public final class PromisesTest {
         due("slot", net.slot(3, 0), 0);
         due("resolved", net.resolved(101), -1);
         due("exported", net.exported(3, 1) + net.exported(101, 1), 0);
-        program(net, 0, NEW, 6, PUT, 1, SEND, 0);
-        run(net, 0, 3);
+        net.program(0, NEW, 6, PUT, 1, SEND, 0);
+        net.run(0, 3);
         due("a new number", net.slot(1, 1), 4);
         due("a new number", net.home(102), 0);
     }
 
     private static void promises14To17() {
-        part = "promises 14 to 17";
-        PromiseVats net = busyNet();
+        sentence("promises 14 to 17");
+        Net net = busyNet();
         int[] noEntity = {MIN, -1, 0, 5, 60, 61, 99, 100, 104, 200, 201, 202, MAX};
         for (int e : noEntity) {
             due("home", net.home(e), -1);
@@ -1034,11 +981,11 @@ public final class PromisesTest {
             due("number", net.number(e), 0);
             due("resolved", net.resolved(e), -1);
         }
-        part = "promise 14";
+        sentence("promise 14");
         due("root", net.home(3), 2);
         due("made", net.home(4), 0);
         due("promise", net.home(103), 1);
-        part = "promise 15";
+        sentence("promise 15");
         int[] slots = {2, 3, 101, 4};
         for (int s = 0; s < 4; s++) {
             due("slot " + s, net.slot(1, s), slots[s]);
@@ -1050,23 +997,23 @@ public final class PromisesTest {
         for (int s : noSlot) {
             due("no slot", net.slot(1, s), 0);
         }
-        part = "promise 16";
+        sentence("promise 16");
         due("kept", net.number(1), -4);
         due("made", net.number(4), 5);
         due("of a promise", net.number(101), 0);
-        part = "promise 17";
+        sentence("promise 17");
         due("open", net.resolved(101), -1);
         due("an object", net.resolved(1), -1);
-        program(net, 1, SELF, 0);
-        deliverAll(net, 0, 1, 1);
+        net.program(1, SELF, 0);
+        net.deliverAll(0, 1, 1);
         due("turn", net.turn(1), 2);
         due("to an object", net.resolved(101), 2);
         due("turn", net.turn(1), 2);
-        program(net, 1);
+        net.program(1);
         due("turn", net.turn(1), 2);
         due("to an object", net.resolved(102), 2);
         due("to an object of another vat", net.resolved(103), 3);
-        program(net, 0, NIL, 0, SEND, 0);
+        net.program(0, NIL, 0, SEND, 0);
         due("turn", net.turn(0), 1);
         due("deliver", net.deliver(0, 1), 1);
         due("turn", net.turn(1), 2);
@@ -1075,12 +1022,12 @@ public final class PromisesTest {
     }
 
     private static void promise18() {
-        part = "promise 18";
-        PromiseVats net = new PromiseVats(2);
+        sentence("promise 18");
+        Net net = new Net(2);
         due("none yet", net.output(0, 0), 0);
-        program(net, 0, OUT, 0);
+        net.program(0, OUT, 0);
         for (int i = 1; i <= 13; i++) {
-            run(net, 0, i == 13 ? MIN : i);
+            net.run(0, i == 13 ? MIN : i);
             due("latest", net.output(0, 0), i == 13 ? MIN : i);
             for (int k = 1; k <= 9; k++) {
                 due("before " + k, net.output(0, k), Math.max(0, i - k));

@@ -9,7 +9,7 @@ import java.util.TreeSet;
  * RandomRunsTest holds the program. References are plain numbers here, counts stand in maps, and
  * waiting gifts and redeems are kept one by one.
  */
-final class VatModel {
+final class VatModel implements Face {
     record Call(int target, int value, int argument, int answer) {
     }
 
@@ -96,7 +96,8 @@ final class VatModel {
         return v >= 0 && v < size;
     }
 
-    boolean code(int program, int op, int x) {
+    @Override
+    public boolean code(int program, int op, int x) {
         boolean smallX = x >= 0 && x <= 3;
         boolean wideX = x >= 0 && x <= 7;
         if (program < 0 || program > 7 || op < 0 || op > 10) {
@@ -112,7 +113,8 @@ final class VatModel {
         return true;
     }
 
-    boolean clear(int program) {
+    @Override
+    public boolean clear(int program) {
         if (program < 0 || program > 7) {
             return false;
         }
@@ -120,7 +122,8 @@ final class VatModel {
         return true;
     }
 
-    boolean give(int v, int s, int w) {
+    @Override
+    public boolean give(int v, int s, int w) {
         if (!vat(v) || !vat(w) || s < 0 || s > 3) {
             return false;
         }
@@ -132,7 +135,8 @@ final class VatModel {
         return true;
     }
 
-    boolean poke(int v, int value) {
+    @Override
+    public boolean poke(int v, int value) {
         if (!vat(v) || vats.get(v).inbox.size() >= 20) {
             return false;
         }
@@ -157,7 +161,8 @@ final class VatModel {
         }
     }
 
-    int deliver(int a, int b) {
+    @Override
+    public int deliver(int a, int b) {
         if (!vat(a) || !vat(b) || a == b || vats.get(a).wires.get(b).isEmpty()) {
             return 0;
         }
@@ -266,7 +271,8 @@ final class VatModel {
         }
     }
 
-    int turn(int v) {
+    @Override
+    public int turn(int v) {
         if (!vat(v) || vats.get(v).inbox.isEmpty()) {
             return -1;
         }
@@ -319,7 +325,8 @@ final class VatModel {
         return p;
     }
 
-    int sweep(int v) {
+    @Override
+    public int sweep(int v) {
         if (!vat(v)) {
             return -1;
         }
@@ -373,7 +380,8 @@ final class VatModel {
         }
     }
 
-    int count(int v, int kind) {
+    @Override
+    public int count(int v, int kind) {
         if (!vat(v)) {
             return 0;
         }
@@ -396,42 +404,51 @@ final class VatModel {
         return entity == null || entity.freed ? null : entity;
     }
 
-    int imported(int v, int e) {
+    @Override
+    public int imported(int v, int e) {
         return vat(v) ? vats.get(v).imports.getOrDefault(e, 0) : 0;
     }
 
-    int exported(int e, int b) {
+    @Override
+    public int exported(int e, int b) {
         return live(e) == null || !vat(b) || live(e).home == b ? 0 : exports.get(e)[b];
     }
 
-    int home(int e) {
+    @Override
+    public int home(int e) {
         return live(e) == null ? -1 : live(e).home;
     }
 
-    int slot(int e, int s) {
+    @Override
+    public int slot(int e, int s) {
         return live(e) == null || live(e).promise || s < 0 || s > 3 ? 0 : live(e).slots[s];
     }
 
-    int number(int e) {
+    @Override
+    public int number(int e) {
         return live(e) == null || live(e).promise ? 0 : live(e).number;
     }
 
-    int resolved(int e) {
+    @Override
+    public int resolved(int e) {
         return live(e) == null || !live(e).promise || live(e).open ? -1 : live(e).resolution;
     }
 
-    int output(int v, int k) {
+    @Override
+    public int output(int v, int k) {
         if (!vat(v) || k < 0 || k > 9 || k >= vats.get(v).outputs.size()) {
             return 0;
         }
         return vats.get(v).outputs.get(vats.get(v).outputs.size() - 1 - k);
     }
 
-    int flying(int a, int b) {
+    @Override
+    public int flying(int a, int b) {
         return vat(a) && vat(b) ? vats.get(a).wires.get(b).size() : 0;
     }
 
-    int inbox(int v) {
+    @Override
+    public int inbox(int v) {
         return vat(v) ? vats.get(v).inbox.size() : 0;
     }
 }
