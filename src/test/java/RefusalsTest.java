@@ -14,7 +14,10 @@ public final class RefusalsTest extends Sentences {
     private static final int[] NO_OUTPUT = {MIN, -1, 10, 11, MAX};
     private static final int[] NO_ENTITY = {MIN, -1, 0, 30, 61, 100, 130, 201, MAX};
 
-    /** Something of every kind is in this net; the inbox of vat 0 is full, that of vat 2 empty. */
+    /**
+     * Something of every kind is in this net. The inbox of vat 0 is full, that of vat 2 empty, and
+     * program 1, which the call in the inbox of vat 1 will run, has all its instructions.
+     */
     private static Net busyNet() {
         Net net = Net.knownByFirst(SIZE);
         net.gives(1, 0, 2);
@@ -32,7 +35,7 @@ public final class RefusalsTest extends Sentences {
         net.delivers(0, 1, CALL, CALL, CALL, CALL);
         net.delivers(0, 2, GIFT);
         net.sweeps(1, 0);
-        net.program(3, ADD, 0, KEEP, 0, OUT, 0, SELF, 0, PUT, 1, SKIP, 1, NIL, 0, PUT, 2);
+        net.program(1, SET, 9, ADD, 0, KEEP, 0, OUT, 0, SELF, 0, NEW, 4, PUT, 1, PUT, 2);
         net.program(4, OUT, 0);
         for (int i = 1; i <= 20; i++) {
             net.pokes(0, i % 3);
@@ -133,16 +136,16 @@ public final class RefusalsTest extends Sentences {
         int[] noOp = {MIN, -1, 11, MAX};
         for (int i = 0; i < 4; i++) {
             refused.add(new Ask("code", noProgram[i], OUT, 0));
-            refused.add(new Ask("code", 1, noOp[i], 0));
+            refused.add(new Ask("code", 2, noOp[i], 0));
         }
         int[] ops = {PUT, GET, SEND, NEW, SKIP};
         for (int op : ops) {
-            refused.add(new Ask("code", 1, op, -1));
+            refused.add(new Ask("code", 2, op, -1));
             refused.add(new Ask("code", 2, op, op == NEW || op == SKIP ? 8 : 4));
             refused.add(new Ask("code", 4, op, MAX));
         }
         for (int op = 0; op <= 10; op++) {
-            refused.add(new Ask("code", 3, op, 2));
+            refused.add(new Ask("code", 1, op, 3));
         }
         return refused;
     }

@@ -102,6 +102,11 @@ public final class TravelTest extends Sentences {
         due("x", net.exported(4, 1), 0);
         net.delivers(0, 3, GIFT);
         due("x", net.exported(4, 1), 1);
+        net.run(0, 0);
+        net.delivers(0, 1, CALL);
+        due("c of one that comes again", net.imported(1, 4), 2);
+        due("imports", net.count(1, IMPORTS), 1);
+        due("a redeem again", net.flying(1, 3), 1);
     }
 
     private static void noneTravels() {
