@@ -143,8 +143,9 @@ public final class PromiseVats {
                 resolveIn(v, call.answer, running.reference);
                 settleLost(v);
             }
+            return called.id;
         }
-        return call.target.id;
+        return NONE;
     }
 
     public int deliver(int a, int b) {
@@ -153,26 +154,7 @@ public final class PromiseVats {
         }
         Message message = vats[a].channels[b].messages.remove(0);
         unpackArgument(message.argument, a, b);
-        Entity subject = message.subject;
-        switch (message.kind) {
-            case CALL:
-                arrive(message.call, b);
-                break;
-            case RESOLVE:
-                if (subject instanceof Promise promise) {
-                    resolveIn(b, promise, message.argument);
-                }
-                break;
-            case RELEASE:
-                subject.exports[a] -= message.amount;
-                break;
-            case GIFT:
-                takeGift(subject, a, message.amount);
-                break;
-            default:
-                takeRedeem(subject, message.amount, a);
-                break;
-        }
+        takeMessage(message, a, b);
         settleLost(b);
         return message.kind;
     }
@@ -478,6 +460,31 @@ public final class PromiseVats {
         vats[from].channels[to].messages.add(message);
     }
 
+    private void takeMessage(Message message, int from, int here) {
+        Entity subject = message.subject;
+        switch (message.kind) {
+            case CALL:
+                if (message.call != null) {
+                    arrive(message.call, here);
+                }
+                break;
+            case RESOLVE:
+                if (subject instanceof Promise promise) {
+                    resolveIn(here, promise, message.argument);
+                }
+                break;
+            case RELEASE:
+                subject.exports[from] -= message.amount;
+                break;
+            case GIFT:
+                takeGift(subject, from, message.amount);
+                break;
+            default:
+                takeRedeem(subject, message.amount, from);
+                break;
+        }
+    }
+
     private static void takeGift(Entity entity, int giver, int taker) {
         int pair = giver * MOST_VATS + taker;
         if (entity.gifts[pair] < 0) {
@@ -574,29 +581,34 @@ public final class PromiseVats {
         if (kind == KIND_IMPORTS) {
             return entity.imports[v] > 0 ? 1 : 0;
         }
-        if (entity.home != v || entity.freed) {
+        if (entity.home != v) {
             return 0;
         }
-        if (kind == KIND_GIFTS || kind == KIND_REDEEMS) {
-            return kind == KIND_GIFTS ? entity.unpaired(1) : entity.unpaired(-1);
+        switch (kind) {
+            case KIND_GIFTS:
+                return entity.unpaired(1);
+            case KIND_REDEEMS:
+                return entity.unpaired(-1);
+            case KIND_WAITING:
+                return waitingAt(entity);
+            default:
+                return !entity.freed && kind == kindOf(entity) ? 1 : 0;
         }
-        if (entity instanceof Promise promise) {
-            return shareOfPromise(promise, kind);
-        }
-        return kind == KIND_OBJECTS ? 1 : 0;
     }
 
-    private static int shareOfPromise(Promise promise, int kind) {
-        switch (kind) {
-            case KIND_OPEN:
-                return promise.open ? 1 : 0;
-            case KIND_RESOLVED:
-                return promise.open ? 0 : 1;
-            case KIND_WAITING:
-                return promise.waiting.size();
-            default:
-                return 0;
+    private static int waitingAt(Entity entity) {
+        if (entity instanceof Promise promise) {
+            return promise.waiting.size();
         }
+        return 0;
+    }
+
+    /** The kind of count that an entity is counted under while it is not freed. */
+    private static int kindOf(Entity entity) {
+        if (entity instanceof Promise promise) {
+            return promise.open ? KIND_OPEN : KIND_RESOLVED;
+        }
+        return KIND_OBJECTS;
     }
 
     /** An object or a promise. A reference is such an entity, or null for none. */
